@@ -551,22 +551,23 @@ public final class PenThatJumps {
 
     /** The words of the language, with the numbers of the facts that they are in a BODY and in a READER. */
     private enum Word {
-        // The first four facts of a BODY are the KINDS, in their order: the parser counts on it.
+        // The first four facts of a BODY are the KINDS, in their order: the parser and the chair count on it.
+        // Of a READER each KIND has a fact for each line, and so have real and others; the judge counts on that.
         PLAIN("plain", 0, 0),
         SHAMING("shaming", 1, 3),
         ASKED("asked", 2, 6),
         KNOWN("known", 3, 9),
-        REAL("real", 4, 12),
-        OTHERS("others", NONE, 15),
-        FILE("file", NONE, 18),
-        ASKS("asks", NONE, 19),
-        HEARD("heard", 5, NONE),
-        FEAR("fear", 6, NONE),
-        DONE("done", 7, NONE),
-        TRICK("trick", 8, NONE),
-        HABIT("habit", 9, NONE),
-        PLACE("place", 10, NONE),
-        NOISE("noise", 11, NONE),
+        REAL("real", Chair.REAL, Judge.REAL),
+        OTHERS("others", NONE, Judge.OTHERS),
+        FILE("file", NONE, Judge.FILE),
+        ASKS("asks", NONE, Judge.ASKS),
+        HEARD("heard", Chair.HEARD, NONE),
+        FEAR("fear", Chair.FEAR, NONE),
+        DONE("done", Chair.DONE, NONE),
+        TRICK("trick", Chair.TRICK, NONE),
+        HABIT("habit", Chair.HABIT, NONE),
+        PLACE("place", Chair.PLACE, NONE),
+        NOISE("noise", Chair.NOISE, NONE),
         NOT("not", NONE, NONE),
         AND("and", NONE, NONE),
         OR("or", NONE, NONE),
@@ -1189,7 +1190,7 @@ public final class PenThatJumps {
                 pose(who, asked, question, asked.ahead(question), question);
                 for (int cell = 0; cell < LINES * NOISES; cell++) {
                     int at = question * LINES * NOISES + cell;
-                    if (at < jumpsByNoise.length) {
+                    if (at >= 0 && at < jumpsByNoise.length) {
                         jumpsByNoise[at] = jumpOf(cell / NOISES, cell % NOISES);
                     }
                 }

@@ -88,6 +88,8 @@ public final class ApartTest {
         best(x, 0, 99, 0, 0, 0);
         best(x, 1, 99, 100, 31, 15);
         best(x, 9, 1, 99, 16, 1);
+        Check.body(x, "line 0 = done * noise; line 1 = done * trick; line 2 = (1 - done) * trick;");
+        best(x, 0, 99, 0, 0, 0);
         x.item(1);
         Check.body(x, "line 0 = heard;");
         best(x, 0, 99, 1, 16, 1);

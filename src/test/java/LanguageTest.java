@@ -7,6 +7,7 @@ public final class LanguageTest {
         values();
         depth();
         keptOnFault();
+        longest();
         Check.end();
     }
 
@@ -121,6 +122,9 @@ public final class LanguageTest {
         bodyFault("line 0 = 99999;", 1, "99999");
         bodyFault("line 0 = abcdefghi;", 1, "abcdefghi");
         bodyFault("line 0 = fears;", 1, "fears");
+        bodyFault("line 0 = fearz;", 1, "fearz");
+        bodyFault("line 0 = afear;", 1, "afear");
+        bodyFault("line 0 = fea\nr;", 1, "fea");
         bodyFault("line 0 = Fear;", 1, "Fear");
         bodyFault("line 0 = 1; x", 1, "x");
         bodyEnd("line");
@@ -205,6 +209,19 @@ public final class LanguageTest {
         bodyFault("line 0 = ((((();", 1, ")");
         bodyFault("line 0 = ((((1 + (2;", 5, "2");
         readerFault("says when (((((plain 9)))));", 5, "plain");
+    }
+
+    /** Texts of all 1,000 signs, and what is beyond them. */
+    private static void longest() {
+        PenThatJumps x = new PenThatJumps();
+        x.person(0, 5, true, 0, false);
+        Check.plan(x, 0, "ask plain;");
+        Check.due("1,000 signs", Check.body(x, "line0=" + "1+".repeat(494) + "1-400;x"), 0);
+        x.sit(0, 0, 0);
+        Check.due("all of them", x.jump(0, 0, 0), 95);
+        Check.due("1,001 signs", Check.body(x, "line0=" + "1+".repeat(496) + "1 ;"), 16001);
+        Check.due("most depth", Check.body(x, "line0=" + "1or 1=1+1*(".repeat(4) + "1or 1=1+1*1))));"), 0);
+        Check.due("many nots", Check.reader(x, 0, "says when " + "not not not not 0+".repeat(54) + "0;"), 0);
     }
 
     private static void keptOnFault() {

@@ -298,6 +298,10 @@ public final class SittingTest {
         Check.due("of one who tricks", x.tricked(0, 0, 0, 40), moved);
         Check.due("of one who does not", x.tricked(1, 0, 0, 40), moved);
         Check.due("with file 0", x.tricked(0, 0, 2, 40) > 0, true);
+        Check.reader(x, 3, "says when file = 1;");
+        Check.due("with no other file", x.tricked(0, 0, 3, 40), 0);
+        Check.reader(x, 3, "says when plain 0 < 2;");
+        Check.due("one seed", x.tricked(0, 0, 3, 1), 1);
         Check.due("no plain question", x.tricked(0, 1, 0, 40), 0);
         Check.due("a reader without lines", x.tricked(0, 0, 1, 40), 0);
         Check.due("the person stays", x.sit(1, 0, 0), 0);

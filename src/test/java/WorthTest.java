@@ -73,6 +73,13 @@ public final class WorthTest {
         // Of three doers two are said, of four others one.
         x.person(0, 5, true, 0, false);
         Check.due("all have done it", x.named(10, 1, 0, 0, 0, 3, 0), -1);
+        x.person(1, 9, false, 0, false);
+        Check.due("one person, one seed, above", x.named(1, 1, 0, 0, 0, 1, 0), 1);
+        Check.due("one person, one seed, below", x.named(1, 1, 0, 0, 0, 1, 1), 1);
+        Check.due("one of two, below", x.named(2, 1, 0, 0, 0, 1, 1), 2);
+        x.person(0, 5, false, 0, false);
+        Check.due("nobody has done it", x.named(10, 1, 0, 0, 0, 3, 0), -1);
+        x.person(0, 5, true, 0, false);
         x.person(1, 9, true, 0, false);
         x.person(2, 4, true, 0, false);
         x.person(3, 6, false, 0, false);
@@ -136,6 +143,13 @@ public final class WorthTest {
         Check.due("nothing was counted", x.count(4), 24);
         Check.due("n 9999", x.confess(true, true, true, 9999), true);
         worth(x, 0, 10002 * 4L - 10003, 10003 * 4L);
+        PenThatJumps z = new PenThatJumps();
+        z.confess(false, false, true, 1);
+        noWorth(z, 1);
+        noWorth(z, 2);
+        z.confess(false, true, true, 1);
+        worth(z, 1, 0, 1);
+        noWorth(z, 0);
         Check.none("whom 3", () -> x.worth(3, 0));
         Check.none("whom -1", () -> x.worth(-1, 0));
         Check.none("what 2", () -> x.worth(0, 2));
@@ -175,6 +189,11 @@ public final class WorthTest {
         Check.due("people", x.count(5), 10031);
         Check.none("what 2", () -> x.lean(2));
         Check.none("what -1", () -> x.lean(-1));
+        PenThatJumps z = new PenThatJumps();
+        Check.due("one person", z.paper(true, 1, 1), true);
+        Check.due("one person", z.paper(false, 1, 0), true);
+        Check.due("of one each, above", z.lean(0), 1);
+        Check.due("of one each, below", z.lean(1), 1);
         PenThatJumps y = new PenThatJumps();
         y.paper(false, 4, 1);
         Check.none("the other side alone", () -> y.lean(0));
