@@ -23,8 +23,8 @@ public final class WorthTest {
     }
 
     private static void odds() {
-        PenThatJumps x = new PenThatJumps();
         for (int q = 1; q <= 9; q++) {
+            PenThatJumps x = new PenThatJumps();
             for (int m = 2; m <= 9; m++) {
                 long all = 1;
                 for (int i = 0; i < q; i++) {
@@ -39,8 +39,9 @@ public final class WorthTest {
         }
         int[][] wrong = {{0, 2, 0, 0}, {10, 2, 0, 0}, {1, 1, 0, 0}, {1, 10, 0, 0}, {3, 2, -1, 0}, {3, 2, 4, 0},
             {3, 2, 1, 2}, {3, 2, 1, -1}, {Integer.MIN_VALUE, 0, 0, 0}};
+        PenThatJumps y = new PenThatJumps();
         for (int[] w : wrong) {
-            Check.due("odds of what is not", x.odds(w[0], w[1], w[2], w[3]), -1);
+            Check.due("odds of what is not", y.odds(w[0], w[1], w[2], w[3]), -1);
         }
     }
 
