@@ -140,6 +140,19 @@ final class LanguageEdges {
             Check.due(texts[lines], Check.body(x, texts[lines]), 0);
             Check.due("lines", x.count(7), lines);
         }
+        for (String order : new String[] {"012", "021", "102", "120", "201", "210"}) {
+            StringBuilder text = new StringBuilder();
+            for (char line : order.toCharArray()) {
+                text.append("line ").append(line).append(" = 5 * ").append(line).append(" + 7;");
+            }
+            PenThatJumps x = somebody(0, false, 0, false);
+            Check.plan(x, 0, "ask plain;");
+            Check.due(text.toString(), Check.body(x, text.toString()), 0);
+            x.sit(0, 0, 0);
+            for (int line = 0; line <= 2; line++) {
+                Check.due("line " + line + " of " + text, x.jump(0, 0, line), 5 * line + 7);
+            }
+        }
         Check.says("N 0 to 2, each once");
         for (int line = 0; line <= 2; line++) {
             String text = "line " + line + " = 7;";
@@ -279,12 +292,12 @@ final class LanguageEdges {
     private static void truth() {
         Check.says("Of not, and, or, < and = comes 1 or 0");
         for (int a : new int[] {0, 1, 2, 99, 9999}) {
-            comes("not " + a, a == 0 ? 1 : 0);
+            comes("5 + not " + a, a == 0 ? 6 : 5);
             for (int b : new int[] {0, 1, 2, 99, 9999}) {
-                comes(a + " and " + b, a != 0 && b != 0 ? 1 : 0);
-                comes(a + " or " + b, a != 0 || b != 0 ? 1 : 0);
-                comes(a + " < " + b, a < b ? 1 : 0);
-                comes(a + " = " + b, a == b ? 1 : 0);
+                comes("5 + (" + a + " and " + b + ")", a != 0 && b != 0 ? 6 : 5);
+                comes("5 + (" + a + " or " + b + ")", a != 0 || b != 0 ? 6 : 5);
+                comes("5 + (" + a + " < " + b + ")", a < b ? 6 : 5);
+                comes("5 + (" + a + " = " + b + ")", a == b ? 6 : 5);
             }
         }
         Check.says("what is not 0 is so");
@@ -674,5 +687,11 @@ final class LanguageEdges {
         Check.due("its line", x.jump(2, 0, 0), 2);
         Check.due("an empty body", Check.body(x, ""), 0);
         Check.due("does not jump", x.jump(x.sit(0, 0, 0), 0, 0), 0);
+        PenThatJumps y = somebody(0, false, 0, false);
+        Check.plan(y, 0, "ask plain;");
+        for (int i = 0; i < 24; i++) {
+            Check.due("a long body, again and again", Check.body(y, "line0=" + "1+".repeat(150) + i + "-150;"), 0);
+            Check.due("each of them", y.jump(y.sit(0, 0, 0), 0, 0), i);
+        }
     }
 }

@@ -336,6 +336,32 @@ final class OddsEdges {
         }
         Check.due("who was told, stays told", x.count(0), 1);
         Check.due("and the plan", x.count(1), 1);
+        for (int bits = 0; bits < 8; bits++) {
+            eachHeld((bits & 1) != 0, (bits & 2) != 0, (bits & 4) != 0);
+        }
+    }
+
+    /** Confessions of each kind and papers of each side are on a mark. */
+    private static void eachHeld(boolean done, boolean named, boolean yes) {
+        PenThatJumps x = new PenThatJumps();
+        x.confess(done, named, yes, 5);
+        x.paper(done, 5, 4);
+        x.mark(3, false);
+        x.confess(done, named, yes, 7);
+        x.confess(!done, !named, !yes, 7);
+        x.paper(done, 7, 0);
+        x.paper(!done, 7, 7);
+        Check.due("back", x.mark(3, true), true);
+        Check.due("confessions", x.count(4), 5);
+        Check.due("papers", x.count(5), 5);
+        Check.none("no paper on the other side", () -> x.lean(0));
+        x.confess(done, !named, !yes, 1);
+        x.confess(done, named, !yes, 5);
+        x.paper(!done, 1, 0);
+        // Half of those, less all or none of the others.
+        int due = (named ? 1 : -1) * (yes ? 1 : -1);
+        worth(x, done ? 0 : 1, due, 2);
+        lean(x, done ? 4 : -4, 5);
     }
 
     private static void marksStay() {

@@ -324,5 +324,9 @@ final class SittingEdges {
         Check.plan(x, 1, "ask shaming; ask asked; ask known 0;");
         Check.reader(x, 3, "says when 0 < asked 1 + shaming 1 + known 1;");
         Check.due("without a plain question", x.tricked(1, 1, 3, 40), 0);
+        PenThatJumps y = with("ask plain;", "line 0 = trick; line 1 = trick; line 2 = trick;");
+        Check.reader(y, 0, "says when plain 0; says when plain 1; says when plain 2;");
+        Check.due("each time and no more", y.tricked(0, 0, 0, 40), 40);
+        Check.due("one time and no more", y.tricked(0, 0, 0, 1), 1);
     }
 }

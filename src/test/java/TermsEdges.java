@@ -238,6 +238,20 @@ final class TermsEdges {
         reader("says when1;", 0);
     }
 
+    private interface Reading {
+        void due(String text, int fault);
+    }
+
+    /** A word of a text that is right is no longer the same, whichever of its letters is another one. */
+    private static void otherLetters(String text, String word, Reading reading) {
+        reading.due(text, 0);
+        int at = (" " + text).indexOf(" " + word);
+        for (int i = at; i < at + word.length(); i++) {
+            char other = text.charAt(i) == 'z' ? 'y' : 'z';
+            reading.due(text.substring(0, i) + other + text.substring(i + 1), 1 + 16 * at);
+        }
+    }
+
     private static void words() {
         Check.says("WORDS (letters a .. z, 8 at most)");
         // The signs beside a and z are no letters: the word ends ahead of them.
@@ -252,6 +266,18 @@ final class TermsEdges {
             plan("ask " + letter + ";", 1 + 16 * 4);
             plan("ask plain" + letter + ";", 1 + 16 * 4);
             plan(letter + "ask plain;", 1);
+        }
+        for (String word : "ask plain shaming asked known for".split(" ")) {
+            otherLetters("ask known 1 for 2; ask plain; ask shaming; ask asked;", word, TermsEdges::plan);
+        }
+        for (String word : "line plain shaming asked known real heard fear done trick habit place noise not and or"
+                .split(" ")) {
+            otherLetters("line 0 = plain + shaming + asked + known + real + heard + fear + done + trick + habit and"
+                    + " place or noise < not 1;", word, TermsEdges::body);
+        }
+        for (String word : "says when plain shaming asked known real others file asks not and or".split(" ")) {
+            otherLetters("says when plain 0 + shaming 0 + asked 0 + known 0 + real 0 + others 0 + file and asks or"
+                    + " not 1;", word, TermsEdges::reader);
         }
         Check.says("All else (a longer WORD or NUMBER, too, at its first sign) is none.");
         body("line 0 = fear abcdefghi;", 1 + 16 * 14);
