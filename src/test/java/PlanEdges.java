@@ -48,6 +48,16 @@ final class PlanEdges {
         apart("ask plain;", "line 0 = 99 + done; line 1 = done - 1; line 2 = 100 - done;", 0, 0, 0);
         apart("ask plain;", "line 0 = 98 + done; line 1 = done; line 2 = 99 - done;", 0, 0, 12);
         apart("ask plain; ask plain; ask plain;", "line 0 = done * (place = 2) + done * (habit = 1);", 0, 0, 8);
+        PenThatJumps y = with("ask asked;".repeat(12), "line 0 = done; line 1 = done; line 2 = done;");
+        for (int size = 11; size >= 1; size--) {
+            Check.due("a long plan", y.apart(0, 5, 5), 144);
+            Check.due("none is the same", y.same(0, 5), 0);
+            Check.due("its power", y.best(0, 5, 99, 0), 36);
+            Check.due("a shorter plan", Check.plan(y, 1, "ask plain;".repeat(size)), 0);
+            Check.due("apart by its questions alone", y.apart(1, 5, 5), size * 12);
+            Check.due("its power alone", y.best(1, 5, 99, 0), size * 3);
+            Check.due("its questions alone", y.best(1, 5, 99, 1), (1 << size) - 1);
+        }
     }
 
     private static void heardNothing() {
