@@ -29,12 +29,41 @@ public final class FaceTest {
             + "System\\.(?!arraycopy)|Random|Thread|Exact|ordinal|hashCode|toString|->|::)\\b|->|::");
 
     public static void main(String[] args) throws IOException {
+        document();
         face();
         inside();
         source();
         room();
         Check.due("NONE", PenThatJumps.NONE, -1);
         Check.end();
+    }
+
+    /** METHODS is the face of the document, and each promise tells one call of it (the first: the constructor). */
+    private static void document() throws IOException {
+        String text = Files.readString(Path.of("../shared/DOC.md"));
+        String block = text.substring(text.indexOf("public final class"), text.indexOf("## Terms"));
+        Set<String> shown = new TreeSet<>();
+        Matcher line = Pattern.compile("public (\\w+ \\w+\\(.*);").matcher(block);
+        while (line.find()) {
+            shown.add(typesAlone(line.group(1)));
+        }
+        Check.due("the face of the document " + shown, shown.equals(new TreeSet<>(METHODS)), true);
+        Check.due("the constant", block.contains("public static final int NONE = -1;"), true);
+        Check.due("the constructor", block.contains("public PenThatJumps();"), true);
+        Matcher promise = Pattern.compile("## Promise (\\d+): (.*)\n\n`(.*?)`: ").matcher(text);
+        int promises = 0;
+        while (promise.find()) {
+            promises++;
+            Check.due("number of promise " + promise.group(2), Integer.parseInt(promise.group(1)), promises);
+            String due = promises == 1 ? "PenThatJumps()" : METHODS.get(promises - 2);
+            Check.due("promise " + promises, typesAlone(promise.group(3)), due);
+        }
+        Check.due("promises", promises, METHODS.size() + 1);
+    }
+
+    private static String typesAlone(String call) {
+        return call.replaceAll("(int|long|boolean) \\w+([,)])", "$1$2").replace(", ", ",")
+                .replace("throws NoSuch", "throws java.util.NoSuch");
     }
 
     private static void face() {
@@ -78,6 +107,8 @@ public final class FaceTest {
             Check.due("at most twenty fields: " + c, fields <= 20, true);
             for (Method m : c.getDeclaredMethods()) {
                 Check.due("at most seven parameters: " + m, m.getParameterCount() <= 7, true);
+                boolean taken = METHODS.stream().anyMatch(told -> told.contains(" " + m.getName() + "("));
+                Check.due("a name of its own: " + m, taken, false);
             }
         }
     }
@@ -96,6 +127,14 @@ public final class FaceTest {
         Check.due("signs 1 to 127 alone", text.chars().allMatch(c -> c < 128), true);
         Check.due("two imports", code.split("import ").length - 1, 2);
         Check.due("no package", code.contains("package "), false);
+        Matcher method = Pattern.compile("(?ms)^( +)\\w[^\n;=]*\\) (throws \\w+ )?\\{\n(.*?)^\\1\\}").matcher(code);
+        int methods = 0;
+        while (method.find()) {
+            methods++;
+            long lines = method.group().lines().count();
+            Check.due("at most sixty lines: " + method.group().lines().findFirst().orElse(""), lines <= 60, true);
+        }
+        Check.due("methods that were looked at: " + methods, methods > 100, true);
     }
 
     /** What the objects and the dearest calls of a run take: rows are made once and used again. */
